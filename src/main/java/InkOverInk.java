@@ -534,7 +534,7 @@ public final class InkOverInk {
         }
 
         private boolean isRow(int layer, int row) {
-            return isWithin(layer, 0, many - 1) && isWithin(row, 0, SIDE - 1);
+            return layer >= 0 && layer < many && row >= 0 && row < SIDE;
         }
 
         boolean has(int layer, int row, int column) {

@@ -442,7 +442,9 @@ public final class PromiseTest {
         }
         x.trap(1);
         x.creep(5);
+        due("16 ink 0 is three rows up", x.cell(0, 1, 4), 0);
         x.right();
+        due("16 and shows again", x.cell(0, 1, 4), 1);
         due("16 reach", x.count(3), 0);
         due("16 creep", x.count(10), 0);
         due("16 bare", x.count(1), 0);
@@ -528,6 +530,21 @@ public final class PromiseTest {
             due("18 bare " + java.util.Arrays.toString(w), x.bare(w[0], w[1], w[2]), NONE);
         }
         due("18 ink 0 still lies off", x.count(3), 3 + 5);
+    }
+
+    private static void promise18Ways() {
+        // Where another plate covers one side alone, the two ways of lying off differ.
+        InkOverInk x = new InkOverInk();
+        x.page(2, 1);
+        x.shape(0, 0, 0, 1, 1, 1, false);
+        x.shape(0, 1, 0, 1, 1, 3, false);
+        due("18 down", x.bare(0, 1, 0), 1);
+        due("18 up", x.bare(0, -1, 0), 0);
+        x.page(1, 2);
+        x.move(1, 0, 1);
+        due("18 to the right", x.bare(0, 0, 1), 1);
+        due("18 to the left", x.bare(0, 0, -1), 0);
+        due("18 the other ink is not alone anywhere", x.bare(1, 6, 6), 0);
     }
 
     private static void promise19() {
@@ -662,6 +679,7 @@ public final class PromiseTest {
         promise17Reach();
         promise17Crowded();
         promise18();
+        promise18Ways();
         promise19();
         promise20();
         promises21And22();
