@@ -1,38 +1,5 @@
 /** Each promise by itself, with answers worked out by hand from the document. */
-public final class PromiseTest {
-    private static final int NONE = -1;
-    private static final int MIN = Integer.MIN_VALUE;
-    private static final int MAX = Integer.MAX_VALUE;
-
-    private static int passed = 0;
-    private static int failed = 0;
-
-    private static void due(String what, long got, long want) {
-        if (got == want) {
-            passed++;
-            return;
-        }
-        failed++;
-        System.out.println(what + " answered " + got + ", due is " + want);
-    }
-
-    private static void yes(String what, boolean got) {
-        due(what, got ? 1 : 0, 1);
-    }
-
-    private static void no(String what, boolean got) {
-        due(what, got ? 1 : 0, 0);
-    }
-
-    /** A row of six cells: three of ink 0 alone, then three of ink 3 alone. */
-    private static InkOverInk lightBesideDark() {
-        InkOverInk x = new InkOverInk();
-        x.page(1, 6);
-        x.shape(0, 0, 0, 1, 3, 1, false);
-        x.shape(0, 0, 3, 1, 3, 8, false);
-        return x;
-    }
-
+public final class PromiseTest extends Checks {
     private static int seenOf(int kind, int height, int width) {
         InkOverInk x = new InkOverInk();
         x.page(16, 16);
@@ -683,9 +650,6 @@ public final class PromiseTest {
         promise19();
         promise20();
         promises21And22();
-        System.out.println("PromiseTest: " + passed + " checks held, " + failed + " did not");
-        if (failed != 0) {
-            System.exit(1);
-        }
+        end("PromiseTest");
     }
 }
