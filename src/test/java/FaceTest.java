@@ -76,7 +76,28 @@ public final class FaceTest {
             check("static: " + inside, Modifier.isStatic(inside.getModifiers()));
             check("not public: " + inside, !Modifier.isPublic(inside.getModifiers()));
             check("at most twenty fields: " + inside, inside.getDeclaredFields().length <= 20);
+            checkInside(inside);
         }
+    }
+
+    private static void checkInside(Class<?> inside) {
+        for (Method method : inside.getDeclaredMethods()) {
+            boolean hidden = Modifier.isPrivate(method.getModifiers());
+            check("no private method with a public name: " + method, !hidden || !isOfFace(method.getName()));
+        }
+        for (Field field : inside.getDeclaredFields()) {
+            int modifiers = field.getModifiers();
+            check("static only if final: " + field, !Modifier.isStatic(modifiers) || Modifier.isFinal(modifiers));
+        }
+    }
+
+    private static boolean isOfFace(String name) {
+        for (String line : FACE) {
+            if (line.contains(" " + name + "(")) {
+                return true;
+            }
+        }
+        return false;
     }
 
     public static void main(String[] args) throws IllegalAccessException {
